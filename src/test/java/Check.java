@@ -1,0 +1,75 @@
+/** Counts the answers that are not as due; a test ends with end(). */
+final class Check {
+    interface Call {
+        long run();
+    }
+
+    private static int wrong = 0;
+    private static int asked = 0;
+
+    private Check() {
+    }
+
+    static void due(String call, long want, Call run) {
+        asked++;
+        String got;
+        try {
+            got = Long.toString(run.run());
+        } catch (RuntimeException e) {
+            got = e.getClass().getName();
+        }
+        if (!got.equals(Long.toString(want))) {
+            tell(call + " answered " + got + ", due is " + want);
+        }
+    }
+
+    static void dueIs(String call, boolean want, boolean got) {
+        asked++;
+        if (want != got) {
+            tell(call + " is " + got + ", due is " + want);
+        }
+    }
+
+    static void index(String call, Call run) {
+        dueThrow(call, IndexOutOfBoundsException.class, run);
+    }
+
+    static void argument(String call, Call run) {
+        dueThrow(call, IllegalArgumentException.class, run);
+    }
+
+    static void state(String call, Call run) {
+        dueThrow(call, IllegalStateException.class, run);
+    }
+
+    // The very class: what the machine throws of itself is often one below it.
+    private static void dueThrow(String call, Class<?> want, Call run) {
+        asked++;
+        String got;
+        try {
+            got = Long.toString(run.run());
+        } catch (RuntimeException e) {
+            if (e.getClass() == want) {
+                return;
+            }
+            got = e.getClass().getName();
+        }
+        tell(call + " answered " + got + ", due is " + want.getName());
+    }
+
+    static long bit(boolean answer) {
+        return answer ? 1 : 0;
+    }
+
+    static void tell(String fault) {
+        wrong++;
+        System.out.println(fault);
+    }
+
+    static void end() {
+        System.out.println(asked + " asked, " + wrong + " wrong");
+        if (wrong != 0 || asked == 0) {
+            System.exit(1);
+        }
+    }
+}
