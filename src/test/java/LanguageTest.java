@@ -1,0 +1,44 @@
+import java.io.IOException;
+import java.nio.file.Files;
+import java.nio.file.Path;
+import java.util.regex.Matcher;
+import java.util.regex.Pattern;
+
+/** Those rules of ../shared/LANGUAGE.md that the text of the program shows. Run from the project's folder. */
+public final class LanguageTest {
+    private static final String[] BARRED = {
+        "^\\s*package\\b", "^\\s*import\\b", "->", "::", "\\bfinally\\b", "\\bsynchronized\\b", "\\bassert\\b",
+        "\\bcatch\\b", "\\bMath\\.\\w+Exact\\b", "\\bSystem\\.(?!arraycopy)", "\\bRandom\\b", "\\bThread\\b",
+        "\"\\s*\\+", "\\+\\s*\"", "\\bvar\\b", "\\brecord\\b", "\\btoString\\b", "\\bhashCode\\b",
+        "^\\s*static\\s*\\{", "\\bstatic (?!final|int|boolean|void)", "[^\\x01-\\x7f]"};
+
+    private LanguageTest() {
+    }
+
+    public static void main(String[] args) throws IOException {
+        String source = Files.readString(Path.of("src/main/java/RedcrossGantry.java"));
+        String code = source.replaceAll("(?s)/\\*.*?\\*/", "").replaceAll("//[^\n]*", "");
+        for (String barred : BARRED) {
+            Matcher matcher = Pattern.compile(barred, Pattern.MULTILINE).matcher(code);
+            boolean found = matcher.find();
+            Check.dueIs("found " + (found ? matcher.group() : "") + " by " + barred, false, found);
+        }
+        Matcher thrown = Pattern.compile("\\bthrow (?!new Illegal(State|Argument)Exception\\(\""
+                + "|new IndexOutOfBoundsException\\(\")").matcher(code);
+        Check.dueIs("another throw", false, thrown.find());
+        methodsAreShort(code);
+        Check.end();
+    }
+
+    private static void methodsAreShort(String code) {
+        String[] lines = code.split("\n");
+        int begun = 0;
+        for (int i = 0; i < lines.length; i++) {
+            if (lines[i].matches("(    |        )(public|private|static|int|boolean|void|[A-Z]\\w*\\().*\\(.*")) {
+                begun = i;
+            }
+            Check.dueIs("line " + i + " in a method of over 60 lines", false,
+                    i - begun > 60 && lines[i].startsWith("            "));
+        }
+    }
+}
