@@ -356,7 +356,6 @@ public final class RedcrossGantry {
             patrols.sections[patrol] = incidents.sectionOf(incident);
         }
         patrols.incidents[patrol] = NONE;
-        patrols.minutesLeft[patrol] = 0;
     }
 
     private int wayBetween(int from, int to) {

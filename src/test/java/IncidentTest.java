@@ -17,10 +17,12 @@ public final class IncidentTest {
         patterns();
         wayAnswers();
         waysThroughTheOpenShoulder();
+        wayThroughTheOpenEnd();
         sendAnswers();
         patrolAtWork();
         theWayIsTakenAsItWas();
         twoPatrols();
+        atTheCorners();
         Check.end();
     }
 
@@ -62,6 +64,7 @@ public final class IncidentTest {
             Check.state("at the section 0", () -> x.report(0, l));
         }
         Check.due("the shoulder of the section 0", 0, () -> x.report(0, 0));
+        Check.state("suspected there, the first one", () -> x.report(0, 0));
         Check.due("the next one", 1, () -> x.report(1, 1));
         Check.state("suspected there", () -> x.report(1, 1));
         x.stop(1, 1);
@@ -152,6 +155,12 @@ public final class IncidentTest {
         Check.due("the lowest", 5, x::pattern);
         x.detector(5, dead, 0);
         Check.due("nothing believed counts for none", 10, x::pattern);
+        x.detector(1, dead, 0);
+        x.detector(2, dead, 0);
+        x.detector(0, stuck, 10);
+        Check.due("not at the begin", 10, x::pattern);
+        x.detector(1, stuck, 80);
+        Check.due("at the begin", 0, x::pattern);
     }
 
     private static void wayAnswers() {
@@ -203,6 +212,16 @@ public final class IncidentTest {
         x.pass(1);
         Check.due("its own section counts for nothing", 0, () -> x.way(0, 0));
         Check.due("its own section counts for nothing", 1, () -> x.way(0, 1));
+    }
+
+    private static void wayThroughTheOpenEnd() {
+        RedcrossGantry x = new RedcrossGantry();
+        x.demand(24);
+        x.pass(12);
+        x.look(11);
+        x.openShoulder(11, 11);
+        Check.due("through the open end", 12, () -> x.way(0, 11));
+        Check.due("up to the open end", 10, () -> x.way(0, 10));
     }
 
     private static void sendAnswers() {
@@ -281,6 +300,25 @@ public final class IncidentTest {
         Check.due("the way by now is longer", 1, () -> Check.bit(x.way(0, 6) > 6));
         x.pass(8);
         Check.due("cleared", CLEARED, () -> x.incident(0, 2));
+    }
+
+    private static void atTheCorners() {
+        RedcrossGantry x = new RedcrossGantry();
+        x.stop(0, 0);
+        x.report(0, 0);
+        Check.due("stopped at the begin", CONFIRMED, () -> x.confirm(0));
+        x.stop(11, 3);
+        x.report(11, 3);
+        Check.due("stopped at the end", CONFIRMED, () -> x.confirm(1));
+        Check.due("the cross at the end", RedcrossGantry.CROSS, () -> x.sign(11, 3));
+        Check.due("sent to the begin", 5, () -> x.send(0, 0));
+        Check.due("sent to the end", 16, () -> x.send(1, 1));
+        x.pass(5);
+        Check.due("free at the begin", NONE, () -> x.patrol(0, 1));
+        Check.due("stopped no more at the begin", 0, () -> stop(x, 0, 0));
+        x.pass(11);
+        Check.due("at the end", 11, () -> x.patrol(1, 0));
+        Check.due("stopped no more at the end", 0, () -> stop(x, 11, 3));
     }
 
     private static void twoPatrols() {

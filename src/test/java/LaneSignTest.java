@@ -52,6 +52,11 @@ public final class LaneSignTest {
         Check.index("sign(11, 4)", () -> x.sign(11, 4));
         Check.due("sign(11, 3)", OPEN, () -> x.sign(11, 3));
         Check.due("sign(11, 0)", CROSS, () -> x.sign(11, 0));
+        x.order(11, 0, OPEN);
+        Check.due("sign(11, 0) by hand", OPEN, () -> x.sign(11, 0));
+        x.order(11, 3, CROSS);
+        Check.due("sign(11, 3) by hand", CROSS, () -> x.sign(11, 3));
+        Check.due("ahead of the last corner", LEAVE, () -> x.sign(10, 3));
     }
 
     private static void arrowAheadOfACross() {
@@ -149,6 +154,8 @@ public final class LaneSignTest {
         Check.index("openShoulder(3, -1)", () -> x.openShoulder(3, -1));
         Check.argument("openShoulder(3, 2)", () -> x.openShoulder(3, 2));
         Check.state("without a look", () -> x.openShoulder(3, 3));
+        Check.state("without a look at the begin", () -> x.openShoulder(0, 0));
+        Check.state("without a look at the end", () -> x.openShoulder(11, 11));
         x.look(3);
         x.look(5);
         Check.state("with a look at both ends alone", () -> x.openShoulder(3, 5));
@@ -216,6 +223,15 @@ public final class LaneSignTest {
         Check.due("none was open", 0, x::shutShoulder);
         Check.due("shut", CROSS, () -> x.sign(2, 0));
         Check.due("the looks hold on", 4, () -> x.openShoulder(2, 5));
+        x.look(0);
+        x.look(11);
+        x.openShoulder(0, 0);
+        x.openShoulder(11, 11);
+        Check.due("both ends too", 6, x::shutShoulder);
+        x.stop(0, 0);
+        Check.due("one is stopped at the begin", 0, () -> Check.bit(x.look(0)));
+        x.stop(11, 0);
+        Check.due("one is stopped at the end", 0, () -> Check.bit(x.look(11)));
     }
 
     private static void stopsShutTheShoulder() {

@@ -14,11 +14,14 @@ public final class TrafficTest {
         eightGoOnAndAreGone();
         brokenAtFifteen();
         brokenUntilBelowEight();
+        brokenNoMoreWithSeven();
         fullLaneGivesWayToTheLowerOne();
         leaveGoesLowerFirst();
         leaveGoesOwnLast();
+        noneGoesPastTheLastLane();
         arrivalsWait();
         arrivalsIntoTheShoulder();
+        theShoulderCountsToo();
         aCrossAtTheEndLetsThemGo();
         vehicles();
         section();
@@ -166,6 +169,22 @@ public final class TrafficTest {
         Check.due("broken no more", 0, () -> x.section(1, 4));
     }
 
+    private static void brokenNoMoreWithSeven() {
+        RedcrossGantry x = new RedcrossGantry();
+        x.demand(40);
+        x.pass(2);
+        x.demand(0);
+        Check.due("broken with 19", 1, () -> x.section(0, 4));
+        x.pass(1);
+        holds(x, 0, 0, 13, 13, 12);
+        Check.due("broken with 13", 1, () -> x.section(0, 4));
+        x.pass(1);
+        holds(x, 0, 0, 7, 7, 6);
+        Check.due("broken no more with 7", 0, () -> x.section(0, 4));
+        x.pass(1);
+        holds(x, 0, 0, 0, 0, 0);
+    }
+
     private static void fullLaneGivesWayToTheLowerOne() {
         RedcrossGantry x = new RedcrossGantry();
         x.stop(1, 2);
@@ -207,6 +226,20 @@ public final class TrafficTest {
         y.demand(24);
         y.pass(3);
         holds(y, 2, 0, 16, 0, 8);
+    }
+
+    private static void noneGoesPastTheLastLane() {
+        RedcrossGantry x = new RedcrossGantry();
+        x.order(1, 2, CROSS);
+        x.order(1, 3, CROSS);
+        x.order(2, 0, RedcrossGantry.OPEN);
+        x.demand(9);
+        x.pass(1);
+        x.demand(0);
+        x.pass(1);
+        holds(x, 0, 0, 0, 0, 3);
+        holds(x, 1, 0, 6, 0, 0);
+        holds(x, 2, 0, 0, 0, 0);
     }
 
     private static void arrivalsWait() {
@@ -251,6 +284,23 @@ public final class TrafficTest {
         y.pass(1);
         // The one in the shut shoulder finds it crossed ahead, and leaves it.
         holds(y, 2, 0, 2, 1, 1);
+    }
+
+    private static void theShoulderCountsToo() {
+        RedcrossGantry x = new RedcrossGantry();
+        x.stop(0, 0);
+        x.order(0, 0, RedcrossGantry.OPEN);
+        x.order(1, 0, RedcrossGantry.OPEN);
+        x.demand(4);
+        x.pass(2);
+        holds(x, 0, 2, 1, 1, 1);
+        holds(x, 1, 0, 1, 1, 1);
+        Check.due("on the road", 8, () -> x.vehicles(1));
+        Check.due("the most is in the shoulder", 110, () -> x.section(0, 0));
+        x.demand(8);
+        x.pass(1);
+        holds(x, 0, 3, 3, 2, 2);
+        holds(x, 1, 0, 1, 1, 1);
     }
 
     private static void aCrossAtTheEndLetsThemGo() {

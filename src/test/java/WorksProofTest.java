@@ -62,6 +62,16 @@ public final class WorksProofTest {
         Check.argument("there are 8, and begin is past", () -> x.works(2, 5, 6, 0, 10));
         Check.index("there is no 9th", () -> Check.bit(x.isOn(8)));
         Check.due("the 8th", 0, () -> Check.bit(x.isOn(7)));
+        RedcrossGantry y = new RedcrossGantry();
+        for (int i = 0; i < 6; i++) {
+            y.works(1, 5, 6, 0, 10);
+        }
+        y.works(2, 6, 11, 0, 10);
+        Check.state("the 8th would take the last lane", () -> y.works(3, 6, 6, 9, 10));
+        Check.due("the 8th", 7, () -> y.works(3, 7, 11, 0, 10));
+        Check.due("the 8th is on", 1, () -> Check.bit(y.isOn(7)));
+        Check.due("the 8th at the end", CROSS, () -> y.sign(11, 3));
+        Check.due("ahead of the 8th", LEAVE, () -> y.sign(6, 3));
     }
 
     private static void allThreeLanes() {
@@ -92,6 +102,7 @@ public final class WorksProofTest {
         y.works(3, 6, 6, 5, 6);
         y.works(1, 6, 6, 5, 6);
         Check.state("booked later", () -> y.works(2, 5, 7, 0, 20));
+        Check.due("none are on by a call that throws", OPEN, () -> y.sign(5, 2));
         Check.due("a call that throws books nothing", 5, () -> y.works(2, 5, 5, 0, 20));
     }
 
