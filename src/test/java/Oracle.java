@@ -329,6 +329,11 @@ final class Oracle {
         return laneSign(s, l);
     }
 
+    // Signs are lawful always, whatever was called.
+    long isLawful() {
+        return 1;
+    }
+
     long look(int s) {
         section(s);
         boolean clear = !stopped[s][0] && hold[s][0] == 0;

@@ -1,3 +1,7 @@
+import java.lang.reflect.InvocationTargetException;
+import java.lang.reflect.Method;
+import java.util.Arrays;
+
 /**
  * Runs of calls drawn by a counter from a fixed seed, each call asked of the program and of Oracle.
  * Whatever is drawn, only the exceptions of the document may come.
@@ -14,6 +18,9 @@ public final class RandomRunsTest {
         3, 16, 5, 3, 10, 4, 2, 4, 6, 6, 3, 10, 5, 1, 4, 6, 6, 4, 3, 4, 6, 4, 5, 3, 6, 3};
     private static final int[] WILD = {-1, Integer.MIN_VALUE, Integer.MAX_VALUE, 12, 1000, -2, 601};
 
+    private static final Method[] OF_PROGRAM = new Method[NAMES.length];
+    private static final Method[] OF_ORACLE = new Method[NAMES.length];
+
     private long seed;
     private int now;
     private int firstSection;
@@ -25,7 +32,8 @@ public final class RandomRunsTest {
         sections = 1 + draw(12);
     }
 
-    public static void main(String[] args) {
+    public static void main(String[] args) throws ReflectiveOperationException {
+        findMethods();
         for (int run = 0; run < RUNS; run++) {
             new RandomRunsTest(run).compare(run);
         }
@@ -37,7 +45,7 @@ public final class RandomRunsTest {
         return (int) ((seed >>> 33) % below);
     }
 
-    private void compare(int run) {
+    private void compare(int run) throws ReflectiveOperationException {
         RedcrossGantry program = new RedcrossGantry();
         Oracle oracle = new Oracle();
         for (int call = 0; call < CALLS; call++) {
@@ -46,9 +54,9 @@ public final class RandomRunsTest {
             for (int i = 0; i < a.length; i++) {
                 a[i] = drawArgument(NAMES[op], i, a);
             }
-            String want = answer(() -> ask(oracle, NAMES[op], a));
-            String got = answer(() -> ask(program, NAMES[op], a));
-            Check.dueIs("run " + run + " call " + call + ": " + NAMES[op] + java.util.Arrays.toString(a)
+            String want = answer(OF_ORACLE[op], oracle, a);
+            String got = answer(OF_PROGRAM[op], program, a);
+            Check.dueIs("run " + run + " call " + call + ": " + NAMES[op] + Arrays.toString(a)
                     + " answering " + got + " (" + want + " by the oracle)", true, got.equals(want));
             if (!got.equals(want)) {
                 return;
@@ -57,11 +65,31 @@ public final class RandomRunsTest {
         }
     }
 
-    private static String answer(Check.Call call) {
+    // The number that is answered, 1 or 0 for a boolean, 0 for nothing; or the exception's name.
+    private static String answer(Method method, Object of, int[] a) throws IllegalAccessException {
+        Object[] given = new Object[method.getParameterCount()];
+        for (int i = 0; i < given.length; i++) {
+            given[i] = a[i];
+        }
         try {
-            return Long.toString(call.run());
-        } catch (RuntimeException e) {
-            return e.getClass().getName();
+            Object got = method.invoke(of, given);
+            if (got instanceof Boolean) {
+                return (Boolean) got ? "1" : "0";
+            }
+            return got == null ? "0" : got.toString();
+        } catch (InvocationTargetException e) {
+            return e.getCause().getClass().getName();
+        }
+    }
+
+    private static void findMethods() throws NoSuchMethodException {
+        for (int op = 0; op < NAMES.length; op++) {
+            for (Method method : RedcrossGantry.class.getMethods()) {
+                if (method.getName().equals(NAMES[op])) {
+                    OF_PROGRAM[op] = method;
+                    OF_ORACLE[op] = Oracle.class.getDeclaredMethod(NAMES[op], method.getParameterTypes());
+                }
+            }
         }
     }
 
@@ -121,68 +149,6 @@ public final class RandomRunsTest {
             case 2: return before[1] + draw(5) - draw(8) / 7;
             case 3: return now + draw(20) - draw(10) / 9;
             default: return before[3] + draw(60);
-        }
-    }
-
-    private static long ask(RedcrossGantry x, String name, int[] a) {
-        switch (name) {
-            case "demand": return x.demand(a[0]);
-            case "pass": return x.pass(a[0]);
-            case "holds": return x.holds(a[0], a[1]);
-            case "vehicles": return x.vehicles(a[0]);
-            case "section": return x.section(a[0], a[1]);
-            case "detector": return x.detector(a[0], a[1], a[2]);
-            case "weather": return x.weather(a[0]);
-            case "limit": return x.limit(a[0], a[1]);
-            case "order": return x.order(a[0], a[1], a[2]);
-            case "sign": return x.sign(a[0], a[1]);
-            case "isLawful": return Check.bit(x.isLawful());
-            case "look": return Check.bit(x.look(a[0]));
-            case "openShoulder": return x.openShoulder(a[0], a[1]);
-            case "shutShoulder": return x.shutShoulder();
-            case "stop": x.stop(a[0], a[1]); return 0;
-            case "report": return x.report(a[0], a[1]);
-            case "confirm": return x.confirm(a[0]);
-            case "incident": return x.incident(a[0], a[1]);
-            case "pattern": return x.pattern();
-            case "way": return x.way(a[0], a[1]);
-            case "send": return x.send(a[0], a[1]);
-            case "patrol": return x.patrol(a[0], a[1]);
-            case "works": return x.works(a[0], a[1], a[2], a[3], a[4]);
-            case "isOn": return Check.bit(x.isOn(a[0]));
-            case "proof": return x.proof(a[0], a[1], a[2]);
-            default: return Check.bit(x.isFined(a[0], a[1], a[2]));
-        }
-    }
-
-    private static long ask(Oracle x, String name, int[] a) {
-        switch (name) {
-            case "demand": return x.demand(a[0]);
-            case "pass": return x.pass(a[0]);
-            case "holds": return x.holds(a[0], a[1]);
-            case "vehicles": return x.vehicles(a[0]);
-            case "section": return x.section(a[0], a[1]);
-            case "detector": return x.detector(a[0], a[1], a[2]);
-            case "weather": return x.weather(a[0]);
-            case "limit": return x.limit(a[0], a[1]);
-            case "order": return x.order(a[0], a[1], a[2]);
-            case "sign": return x.sign(a[0], a[1]);
-            case "isLawful": return 1;
-            case "look": return x.look(a[0]);
-            case "openShoulder": return x.openShoulder(a[0], a[1]);
-            case "shutShoulder": return x.shutShoulder();
-            case "stop": return x.stop(a[0], a[1]);
-            case "report": return x.report(a[0], a[1]);
-            case "confirm": return x.confirm(a[0]);
-            case "incident": return x.incident(a[0], a[1]);
-            case "pattern": return x.pattern();
-            case "way": return x.way(a[0], a[1]);
-            case "send": return x.send(a[0], a[1]);
-            case "patrol": return x.patrol(a[0], a[1]);
-            case "works": return x.works(a[0], a[1], a[2], a[3], a[4]);
-            case "isOn": return x.isOn(a[0]);
-            case "proof": return x.proof(a[0], a[1], a[2]);
-            default: return x.isFined(a[0], a[1], a[2]);
         }
     }
 }
