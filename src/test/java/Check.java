@@ -1,3 +1,7 @@
+import java.io.IOException;
+import java.nio.file.Files;
+import java.nio.file.Path;
+
 /** Counts the answers that are not as due; a test ends with end(). */
 final class Check {
     interface Call {
@@ -6,6 +10,8 @@ final class Check {
 
     private static int wrong = 0;
     private static int asked = 0;
+    private static String sentence = "";
+    private static String document = null;
 
     private Check() {
     }
@@ -19,6 +25,31 @@ final class Check {
             got = e.getClass().getName();
         }
         if (!got.equals(Long.toString(want))) {
+            tell(call + " answered " + got + ", due is " + want);
+        }
+    }
+
+    /** The words of the document that the next answers are asked for; they are looked up, if it is there. */
+    static void says(String words) {
+        sentence = words;
+        if (document == null) {
+            document = document();
+        }
+        dueIs("said by the document", true, document.isEmpty() || document.contains(words));
+    }
+
+    private static String document() {
+        Path path = Path.of("../shared/DOC.md");
+        try {
+            return Files.exists(path) ? Files.readString(path) : "";
+        } catch (IOException e) {
+            return "";
+        }
+    }
+
+    static void dueText(String call, String want, String got) {
+        asked++;
+        if (!got.equals(want)) {
             tell(call + " answered " + got + ", due is " + want);
         }
     }
@@ -63,7 +94,7 @@ final class Check {
 
     static void tell(String fault) {
         wrong++;
-        System.out.println(fault);
+        System.out.println(fault + (sentence.isEmpty() ? "" : "; asked for: " + sentence));
     }
 
     static void end() {
