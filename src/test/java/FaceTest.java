@@ -57,7 +57,7 @@ public final class FaceTest {
         constants(face);
         for (Class<?> inside : face.getDeclaredClasses()) {
             boolean hidden = !Modifier.isPublic(inside.getModifiers()) && !Modifier.isProtected(inside.getModifiers());
-            Check.dueIs(inside + " hidden and static", true, hidden && Modifier.isStatic(inside.getModifiers()));
+            Check.dueIs(inside + " hidden", true, hidden);
             noNamesOfTheFace(inside);
         }
         Check.end();
@@ -97,8 +97,8 @@ public final class FaceTest {
     private static void noNamesOfTheFace(Class<?> inside) {
         for (Method method : inside.getDeclaredMethods()) {
             for (String line : METHODS) {
-                Check.dueIs(inside + " " + method.getName() + " bears a name of the face", false,
-                        line.contains(" " + method.getName() + "("));
+                Check.dueIs(inside + " " + method.getName() + " private by a name of the face", false,
+                        Modifier.isPrivate(method.getModifiers()) && line.contains(" " + method.getName() + "("));
             }
         }
     }

@@ -30,6 +30,7 @@ public final class IncidentSentencesTest {
     public static void main(String[] args) {
         noneAtFirst();
         twelveAtMost();
+        theTwelfthIsLikeTheOthers();
         clearedOnesCountToo();
         suspectedAtFirst();
         oneThatIsNotCleared();
@@ -78,6 +79,16 @@ public final class IncidentSentencesTest {
         }
         x.state("report", 5, 1).index("incident", 12, 0).index("incident", -1, 0).index("confirm", 12).index("send", 0, 12);
         x.due(0, "incident", 0, 0).due(11, "incident", 11, 0);
+    }
+
+    private static void theTwelfthIsLikeTheOthers() {
+        Check.says(NUMBERED);
+        Road x = new Road();
+        for (int number = 0; number < 11; number++) {
+            x.due(number, "report", 5, 1).due(CLEARED, "confirm", number);
+        }
+        x.confirmed(11, 11, 2).laneSigns(2, 10, RedcrossGantry.LEAVE, CROSS).due(16, "send", 2, 11).due(11, "patrol", 2, 1);
+        x.does("pass", 16).laneSigns(2, 10, OPEN, OPEN).due(CLEARED, "incident", 11, 2).state("report", 11, 2);
     }
 
     private static void clearedOnesCountToo() {
@@ -331,7 +342,7 @@ public final class IncidentSentencesTest {
         Check.says(TAKES);
         Road x = new Road().confirmed(0, 11, 3).due(16, "send", 1, 0).does("pass", 15).due(0, "patrol", 1, 0);
         x.due(0, "patrol", 1, 1).does("pass", 1).due(11, "patrol", 1, 0).due(NONE, "patrol", 1, 1).due(0, "patrol", 1, 2);
-        x.due(0, "patrol", 0, 0).due(0, "patrol", 2, 0);
+        x.due(0, "patrol", 0, 0).due(0, "patrol", 2, 0).does("stop", 11, 3);
         // Only the vehicle that is stopped there is gone.
         Road y = new Road().confirmed(0, 2, 1).does("stop", 2, 2).does("stop", 3, 1).does("send", 0, 0).does("pass", 7);
         y.does("stop", 2, 1).state("stop", 2, 2).state("stop", 3, 1);

@@ -22,6 +22,7 @@ public final class MinuteSentencesTest {
     }
 
     public static void main(String[] args) {
+        onTheRoadInEachPlace();
         itsNumberIsOneMore();
         manyMinutesAreLikeOneByOne();
         worksComeOnAndGoOffByIt();
@@ -59,6 +60,19 @@ public final class MinuteSentencesTest {
         brokenOnceMore();
         signsAreSetAtTheEndOfIt();
         Check.end();
+    }
+
+    private static void onTheRoadInEachPlace() {
+        Check.says("Tells of vehicles: 0 those that came, 1 those on the road, 2 those that wait, 3 those that are GONE");
+        Road x = new Road();
+        for (int section = 0; section < 12; section++) {
+            x.does("order", section, 0, OPEN);
+        }
+        x.does("demand", 4).does("pass", 1).does("demand", 0);
+        for (int section = 0; section < 12; section++) {
+            x.holds(section, 1, 1, 1, 1).due(4, "vehicles", 1).due(0, "vehicles", 3).does("pass", 1);
+        }
+        x.due(0, "vehicles", 1).due(4, "vehicles", 3).due(4, "vehicles", 0).due(0, "vehicles", 2);
     }
 
     private static void itsNumberIsOneMore() {

@@ -21,6 +21,7 @@ public final class RandomRunsTest {
     private static final Method[] OF_PROGRAM = new Method[NAMES.length];
     private static final Method[] OF_ORACLE = new Method[NAMES.length];
 
+    private final int[] weights = WEIGHTS.clone();
     private long seed;
     private int now;
     private int firstSection;
@@ -30,6 +31,10 @@ public final class RandomRunsTest {
         this.seed = seed * 2654435761L + 12345;
         firstSection = draw(12);
         sections = 1 + draw(12);
+        // Each run asks some calls far more often than others, so that it comes to what is rare.
+        for (int op = 0; op < weights.length; op++) {
+            weights[op] *= draw(4) == 0 ? 5 : 1;
+        }
     }
 
     public static void main(String[] args) throws ReflectiveOperationException {
@@ -95,13 +100,13 @@ public final class RandomRunsTest {
 
     private int drawOp() {
         int sum = 0;
-        for (int weight : WEIGHTS) {
+        for (int weight : weights) {
             sum += weight;
         }
         int at = draw(sum);
         int op = 0;
-        while (at >= WEIGHTS[op]) {
-            at -= WEIGHTS[op];
+        while (at >= weights[op]) {
+            at -= weights[op];
             op++;
         }
         return op;

@@ -162,6 +162,10 @@ public final class SignSentencesTest {
         Road x = new Road().does("order", 6, 1, CROSS).does("order", 6, 1, NONE).laneSigns(1, 5, OPEN, OPEN);
         x.does("order", 0, 1, LEAVE).due(LEAVE, "sign", 0, 1).does("order", 0, 1, NONE).due(OPEN, "sign", 0, 1);
         x.does("order", 11, 0, OPEN).does("order", 11, 0, NONE).due(CROSS, "sign", 11, 0);
+        for (int lane = 1; lane < 4; lane++) {
+            x.does("order", 11, lane, CROSS).laneSigns(lane, 10, LEAVE, CROSS);
+            x.does("order", 11, lane, NONE).laneSigns(lane, 10, OPEN, OPEN);
+        }
     }
 
     private static void worksBeatIncidents() {

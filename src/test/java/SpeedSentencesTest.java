@@ -133,6 +133,9 @@ public final class SpeedSentencesTest {
         Check.says(GUESS);
         Road x = new Road().does("demand", 3).does("pass", 2).due(115, "section", 0, 2).due(120, "section", 11, 2);
         x.does("detector", 1, DEAD, 0).due(NONE, "section", 0, 2).does("detector", 10, STUCK, 0).due(NONE, "section", 11, 2);
+        // Those next to the ends are guessed of by the ends too.
+        x.does("detector", 2, DEAD, 0).due(115, "section", 1, 2).does("detector", 9, DEAD, 0).due(120, "section", 10, 2);
+        x.does("detector", 0, DEAD, 0).due(NONE, "section", 1, 2).does("detector", 11, DEAD, 0).due(NONE, "section", 10, 2);
     }
 
     private static void believedIfGood() {

@@ -21,6 +21,7 @@ public final class WorksProofSentencesTest {
     public static void main(String[] args) {
         noneAtFirst();
         eightAtMost();
+        theEighthIsLikeTheOthers();
         thoseThatAreOverCountToo();
         eachLane();
         fromASectionToAnother();
@@ -63,6 +64,21 @@ public final class WorksProofSentencesTest {
             x.index("isOn", number).due(number, "works", 1 + number % 2, 1 + number, 2 + number, number, 600);
         }
         x.state("works", 1, 1, 1, 0, 1).index("isOn", 8).due(1, "isOn", 0).due(0, "isOn", 7).does("pass", 7).due(1, "isOn", 7);
+    }
+
+    private static void theEighthIsLikeTheOthers() {
+        Check.says(NUMBERED);
+        Road x = new Road();
+        for (int number = 0; number < 7; number++) {
+            x.does("works", 1, 5, 5, 0, 1);
+        }
+        x.due(7, "works", 3, 11, 11, 1, 2).due(OPEN, "sign", 11, 3).does("pass", 1).laneSigns(3, 10, LEAVE, CROSS);
+        x.does("pass", 1).laneSigns(3, 10, OPEN, OPEN).due(0, "isOn", 7);
+        Road y = new Road().does("works", 3, 6, 6, 0, 9);
+        for (int number = 1; number < 6; number++) {
+            y.does("works", 1, 5, 5, 0, 1);
+        }
+        y.does("works", 1, 6, 6, 8, 9).state("works", 2, 6, 6, 8, 9).due(7, "works", 2, 6, 6, 7, 8);
     }
 
     private static void thoseThatAreOverCountToo() {
