@@ -461,7 +461,7 @@ public final class RedcrossGantry {
                 if (section == SECTIONS - 1) {
                     gone++;
                 } else {
-                    int next = placeAhead(section, lane, signs);
+                    int next = placeToGoTo(section, lane, signs);
                     if (next == NONE) {
                         return;
                     }
@@ -478,7 +478,7 @@ public final class RedcrossGantry {
             return broken[section] ? 6 : 8;
         }
 
-        private int placeAhead(int section, int lane, int[] signs) {
+        private int placeToGoTo(int section, int lane, int[] signs) {
             int[] tries = signs[placeOf(section, lane)] == OPEN ? TRIES_IF_OPEN : TRIES_IF_NOT_OPEN;
             for (int i = 0; i < tries.length; i++) {
                 int to = lane + tries[i];

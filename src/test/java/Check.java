@@ -1,6 +1,8 @@
 import java.io.IOException;
 import java.nio.file.Files;
 import java.nio.file.Path;
+import java.util.regex.Matcher;
+import java.util.regex.Pattern;
 
 /** Counts the answers that are not as due; a test ends with end(). */
 final class Check {
@@ -36,6 +38,29 @@ final class Check {
             document = document();
         }
         dueIs("said by the document", true, document.isEmpty() || document.contains(words));
+    }
+
+    /**
+     * All that the document says of a promise, sentence by sentence, for the next answers: none may be missing
+     * from its chapter or left over there. Its declaration is looked at by FaceTest.
+     */
+    static void promise(int number, String... sentences) {
+        sentence = "Promise " + number;
+        if (document == null) {
+            document = document();
+        }
+        String chapter = document.isEmpty() ? String.join("", sentences) : chapter(number);
+        for (String words : sentences) {
+            int at = chapter.indexOf(words);
+            dueIs("said: " + words, true, at >= 0);
+            chapter = at < 0 ? chapter : chapter.substring(0, at) + chapter.substring(at + words.length());
+        }
+        dueText("what is left of the chapter", "", chapter.replaceAll("[\\s-]", ""));
+    }
+
+    private static String chapter(int number) {
+        Matcher chapter = Pattern.compile("\\n## Promise " + number + ": .*\\s+`[^`]*`: ((?s:.*?))\\n## ").matcher(document);
+        return chapter.find() ? chapter.group(1) : "";
     }
 
     private static String document() {

@@ -107,7 +107,7 @@ public final class SpeedSentencesTest {
     }
 
     private static void guessOfBoth() {
-        Check.says("A quotient is rounded down; nothing that is divided is below 0.");
+        Check.says("All numbers are whole. A quotient is rounded down; nothing that is divided is below 0.");
         Road x = new Road().does("demand", 3).does("pass", 1).due(115, "section", 0, 0).due(120, "section", 2, 0);
         x.due(117, "section", 1, 2).due(120, "section", 2, 2);
         Road y = new Road().does("demand", 6).does("pass", 1).due(110, "section", 0, 0).due(115, "section", 1, 2);
@@ -299,7 +299,7 @@ public final class SpeedSentencesTest {
     }
 
     private static void fromTheLastDownToTheFirst() {
-        Check.says("for each SECTION, from 11 down to 0");
+        Check.says("To set them anew: for each SECTION, from 11 down to 0");
         Road x = new Road().does("limit", 4, 40).does("pass", 1).due(40, "section", 4, 3).due(60, "section", 3, 3);
         x.due(80, "section", 2, 3).due(100, "section", 1, 3).due(120, "section", 0, 3).due(120, "section", 5, 3);
         x.does("limit", 4, 120).does("limit", 3, 120).does("limit", 2, 120).does("pass", 1).due(120, "section", 4, 3);
