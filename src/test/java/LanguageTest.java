@@ -1,6 +1,11 @@
 import java.io.IOException;
+import java.lang.reflect.Field;
+import java.lang.reflect.Method;
+import java.lang.reflect.Modifier;
 import java.nio.file.Files;
 import java.nio.file.Path;
+import java.util.ArrayList;
+import java.util.List;
 import java.util.regex.Matcher;
 import java.util.regex.Pattern;
 
@@ -29,7 +34,27 @@ public final class LanguageTest {
             Check.dueIs("found " + (found ? matcher.group() : "") + " by " + barred, false, found);
         }
         methodsAreShort(code);
+        classesAreSmall();
         Check.end();
+    }
+
+    // Some twelve classes, of some twenty fields beside their constants, with seven parameters at most.
+    private static void classesAreSmall() {
+        List<Class<?>> all = new ArrayList<>(List.of(RedcrossGantry.class.getDeclaredClasses()));
+        all.add(RedcrossGantry.class);
+        Check.dueIs(all.size() + " classes", true, all.size() <= 12);
+        for (Class<?> one : all) {
+            int fields = 0;
+            for (Field field : one.getDeclaredFields()) {
+                boolean fixed = Modifier.isStatic(field.getModifiers());
+                fields += fixed || field.isSynthetic() ? 0 : 1;
+                Check.dueIs(field + " static, but not final", false, fixed && !Modifier.isFinal(field.getModifiers()));
+            }
+            Check.dueIs(one + " with " + fields + " fields", true, fields <= 20);
+            for (Method method : one.getDeclaredMethods()) {
+                Check.dueIs(method + " with over seven parameters", false, method.getParameterCount() > 7);
+            }
+        }
     }
 
     private static void methodsAreShort(String code) {
